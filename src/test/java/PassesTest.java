@@ -120,6 +120,8 @@ final class PassesTest {
         relief.fine(0, 3);
         checks.due("moves of fine(0, 3)", Reliefs.moves(relief), "0,0,0 1,0,0 1,3,0 0,3,0 0,4,0 1,4,0");
         checks.due("rows gone", Reliefs.made(relief, 2, 5), "0 0 / 1000 1000 / 1000 1000 / 0 0 / 0 0");
+        relief.fine(0, 5);
+        checks.due("moves of fine(0, 5): the last row from the right", Reliefs.moves(relief), "0,0,0 1,0,0 1,4,0 0,4,0");
         checks.due("fine of one row", new ReliefPasses(20, 1).fine(0, 20), 1);
     }
 
