@@ -4,14 +4,9 @@ final class HeightsTest {
 
     public static void main(String[] args) {
         putTellsWhetherItIsAnother();
-        putRefuses();
         stockSetsAllMade();
-        stockRefuses();
-        madeRefuses();
         belowSeesHeightsToldLater();
         restCountsAndFinds();
-        restGoesRowByRow();
-        restRefuses();
         sumCountsNothingBelow();
         checks.finish();
     }
@@ -30,19 +25,6 @@ final class HeightsTest {
         checks.due("made is not moved by put", Reliefs.made(relief, 3, 2), "5 5 5 / 5 5 5");
     }
 
-    private static void putRefuses() {
-        ReliefPasses relief = new ReliefPasses(3, 2);
-        checks.dueNoPlace("put(-1, 0, 0)", () -> relief.put(-1, 0, 0) ? 1 : 0);
-        checks.dueNoPlace("put(3, 0, 0)", () -> relief.put(3, 0, 0) ? 1 : 0);
-        checks.dueNoPlace("put(0, -1, 0)", () -> relief.put(0, -1, 0) ? 1 : 0);
-        checks.dueNoPlace("put(0, 2, 0)", () -> relief.put(0, 2, 0) ? 1 : 0);
-        checks.dueNoPlace("put(min, max, 0)", () -> relief.put(Integer.MIN_VALUE, Integer.MAX_VALUE, 0) ? 1 : 0);
-        checks.dueNoPlace("put(3, 0, -1): the place first", () -> relief.put(3, 0, -1) ? 1 : 0);
-        checks.dueBadNumber("put(0, 0, -1)", () -> relief.put(0, 0, -1) ? 1 : 0);
-        checks.dueBadNumber("put(2, 1, 1001)", () -> relief.put(2, 1, 1001) ? 1 : 0);
-        checks.due("wanted after what was refused", Reliefs.wanted(relief, 3, 2, 0), "0 0 0 / 0 0 0");
-    }
-
     private static void stockSetsAllMade() {
         ReliefPasses relief = Reliefs.of(Reliefs.row(4, 9), Reliefs.row(2, 0));
         checks.due("stock(9), just the greatest wanted", relief.stock(9), 9);
@@ -54,26 +36,6 @@ final class HeightsTest {
         checks.due("rough begins at the new stock", relief.rough(0, 19, 0), 1);
         checks.due("stock(1000)", relief.stock(1000), 9);
         checks.due("stock(1) of a flat relief", new ReliefPasses(2, 2).stock(1), 0);
-    }
-
-    private static void stockRefuses() {
-        ReliefPasses relief = Reliefs.of(Reliefs.row(4, 9));
-        relief.stock(30);
-        checks.dueBadNumber("stock(0)", () -> relief.stock(0));
-        checks.dueBadNumber("stock(-1)", () -> relief.stock(-1));
-        checks.dueBadNumber("stock(1001)", () -> relief.stock(1001));
-        checks.dueBadState("stock(8) below 9", () -> relief.stock(8));
-        checks.due("made after what was refused", Reliefs.made(relief, 2, 1), "30 30");
-        checks.due("the stock after what was refused", relief.rough(0, 10, 0), 2);
-    }
-
-    private static void madeRefuses() {
-        ReliefPasses relief = new ReliefPasses(3, 2);
-        checks.dueNoPlace("made(-1, 0)", () -> relief.made(-1, 0));
-        checks.dueNoPlace("made(3, 0)", () -> relief.made(3, 0));
-        checks.dueNoPlace("made(0, -1)", () -> relief.made(0, -1));
-        checks.dueNoPlace("made(0, 2)", () -> relief.made(0, 2));
-        checks.dueNoPlace("made(max, min)", () -> relief.made(Integer.MAX_VALUE, Integer.MIN_VALUE));
     }
 
     private static void belowSeesHeightsToldLater() {
@@ -105,22 +67,6 @@ final class HeightsTest {
         relief.put(0, 0, 11);
         checks.due("rest where made is below", relief.rest(0, ReliefPasses.NONE), 4);
         checks.due("rest(999, NONE) of the first stock", new ReliefPasses(4, 4).rest(999, ReliefPasses.NONE), 16);
-    }
-
-    private static void restGoesRowByRow() {
-        ReliefPasses relief = new ReliefPasses(20, 20);
-        checks.due("rest(0, 19)", relief.rest(0, 19), 19);
-        checks.due("rest(0, 20)", relief.rest(0, 20), 20);
-        checks.due("rest(0, 399)", relief.rest(0, 399), 399);
-        checks.due("rest(0, 400)", relief.rest(0, 400), ReliefPasses.NONE);
-    }
-
-    private static void restRefuses() {
-        ReliefPasses relief = new ReliefPasses(3, 2);
-        checks.dueBadNumber("rest(-1, 0)", () -> relief.rest(-1, 0));
-        checks.dueBadNumber("rest(1001, 0)", () -> relief.rest(1001, 0));
-        checks.dueBadNumber("rest(0, -2)", () -> relief.rest(0, -2));
-        checks.dueBadNumber("rest(0, min)", () -> relief.rest(0, Integer.MIN_VALUE));
     }
 
     private static void sumCountsNothingBelow() {

@@ -5,16 +5,11 @@ final class PassesTest {
     public static void main(String[] args) {
         roughGoesLevelByLevel();
         roughKeepsTheSkin();
-        roughStopsAboveZero();
         roughCountsLevelsGoneOnceMore();
         roughByWideToolLeavesEdges();
-        roughRefuses();
         fineGoesToAndFro();
         fineGoesTheLastRowOnce();
         fineCarvesAtItsLift();
-        fineRefuses();
-        movesBehindTheKeptOnesCount();
-        moveRefuses();
         wayIsOfTheLatestPass();
         checks.finish();
     }
@@ -42,21 +37,6 @@ final class PassesTest {
         checks.due("made where nothing was carved", Reliefs.made(relief, 2, 2), "4 7 / 10 7");
     }
 
-    private static void roughStopsAboveZero() {
-        ReliefPasses relief = new ReliefPasses(1, 1);
-        checks.due("rough(0, 1000, 0): level 0 is none", relief.rough(0, 1000, 0), 0);
-        checks.due("rough(0, 999, 0): level 1 is one", relief.rough(0, 999, 0), 1);
-        checks.due("made at level 1", relief.made(0, 0), 1);
-        checks.due("rough(0, 500, 0): 500 and no 0", relief.rough(0, 500, 0), 1);
-        checks.due("rough(0, 1, 0)", relief.rough(0, 1, 0), 999);
-        checks.due("its way", relief.way(), 998);
-        relief.stock(1);
-        checks.due("rough in a stock of 1", relief.rough(0, 1, 0), 0);
-        relief.stock(2);
-        checks.due("rough in a stock of 2", relief.rough(0, 1, 0), 1);
-        checks.due("rough by more than the stock", relief.rough(0, 1000, 0), 0);
-    }
-
     private static void roughCountsLevelsGoneOnceMore() {
         ReliefPasses relief = new ReliefPasses(3, 1);
         relief.stock(10);
@@ -80,21 +60,6 @@ final class PassesTest {
         checks.due("rough(1, 9, 0)", relief.rough(1, 9, 0), 1);
         checks.due("made by the cone, deeper", Reliefs.made(relief, 5, 1), "6 3 2 1 1");
         checks.due("nothing wanted is cut", relief.below(), false);
-    }
-
-    private static void roughRefuses() {
-        ReliefPasses relief = new ReliefPasses(2, 2);
-        relief.fine(0, 1);
-        checks.dueNoPlace("rough(-1, 1, 0)", () -> relief.rough(-1, 1, 0));
-        checks.dueNoPlace("rough(4, 1, 0)", () -> relief.rough(4, 1, 0));
-        checks.dueNoPlace("rough(4, 0, -1): the tool first", () -> relief.rough(4, 0, -1));
-        checks.dueBadNumber("rough(0, 0, 0)", () -> relief.rough(0, 0, 0));
-        checks.dueBadNumber("rough(0, -1, 0)", () -> relief.rough(0, -1, 0));
-        checks.dueBadNumber("rough(0, min, 0)", () -> relief.rough(0, Integer.MIN_VALUE, 0));
-        checks.dueBadNumber("rough(0, 1001, 0)", () -> relief.rough(0, 1001, 0));
-        checks.dueBadNumber("rough(0, 1, -1)", () -> relief.rough(0, 1, -1));
-        checks.dueBadNumber("rough(0, 1, 1001)", () -> relief.rough(0, 1, 1001));
-        checks.due("the moves stay those before", relief.moves(), 4);
     }
 
     private static void fineGoesToAndFro() {
@@ -121,7 +86,8 @@ final class PassesTest {
         checks.due("moves of fine(0, 3)", Reliefs.moves(relief), "0,0,0 1,0,0 1,3,0 0,3,0 0,4,0 1,4,0");
         checks.due("rows gone", Reliefs.made(relief, 2, 5), "0 0 / 1000 1000 / 1000 1000 / 0 0 / 0 0");
         relief.fine(0, 5);
-        checks.due("moves of fine(0, 5): the last row from the right", Reliefs.moves(relief), "0,0,0 1,0,0 1,4,0 0,4,0");
+        checks.due("moves of fine(0, 5): the last row from the right", Reliefs.moves(relief),
+            "0,0,0 1,0,0 1,4,0 0,4,0");
         checks.due("fine of one row", new ReliefPasses(20, 1).fine(0, 20), 1);
     }
 
@@ -140,58 +106,6 @@ final class PassesTest {
         checks.due("its moves", Reliefs.moves(high), "0,0,50 1,0,0");
         checks.due("made is not raised", Reliefs.made(high, 2, 1), "5 0");
         checks.due("its way", high.way(), 51);
-    }
-
-    private static void fineRefuses() {
-        ReliefPasses relief = new ReliefPasses(2, 2);
-        relief.rough(0, 500, 0);
-        checks.dueNoPlace("fine(-1, 1)", () -> relief.fine(-1, 1));
-        checks.dueNoPlace("fine(4, 1)", () -> relief.fine(4, 1));
-        checks.dueNoPlace("fine(4, 0): the tool first", () -> relief.fine(4, 0));
-        checks.dueBadNumber("fine(0, 0)", () -> relief.fine(0, 0));
-        checks.dueBadNumber("fine(0, -1)", () -> relief.fine(0, -1));
-        checks.dueBadNumber("fine(0, 21)", () -> relief.fine(0, 21));
-        checks.due("made after what was refused", Reliefs.made(relief, 2, 2), "500 500 / 500 500");
-        checks.due("the moves stay those before", relief.move(3, 2), 500);
-    }
-
-    private static void movesBehindTheKeptOnesCount() {
-        ReliefPasses relief = new ReliefPasses(20, 20);
-        checks.due("rough(0, 100, 0)", relief.rough(0, 100, 0), 9);
-        checks.due("moves()", relief.moves(), 3600);
-        checks.due("the last that is kept", Reliefs.move(relief, 1999), "19,19,500");
-        checks.dueNoPlace("the next one", () -> relief.move(2000, 0));
-        checks.dueNoPlace("the last one", () -> relief.move(3599, 0));
-        checks.dueNoPlace("one that is not kept, and another what", () -> relief.move(2000, 3));
-        long level = 20 * 19 + 19 * 20;
-        checks.due("way() goes on behind the kept ones", relief.way(), 9 * level + 8 * (38 + 100));
-        ReliefPasses most = new ReliefPasses(20, 20);
-        checks.due("rough(0, 1, 0)", most.rough(0, 1, 0), 999);
-        checks.due("the most moves", most.moves(), 399600);
-        checks.due("the longest way of levels", most.way(), 999 * level + 998 * (38 + 1));
-        checks.due("all is at level 1", most.sum(), 400);
-        ReliefPasses just = new ReliefPasses(20, 20);
-        just.stock(6);
-        just.rough(0, 1, 0);
-        checks.due("just as many as are kept", just.moves(), 2000);
-        checks.due("the last of them", Reliefs.move(just, 1999), "19,19,1");
-        checks.dueNoPlace("none behind it", () -> just.move(2000, 0));
-    }
-
-    private static void moveRefuses() {
-        ReliefPasses relief = new ReliefPasses(2, 2);
-        checks.dueNoPlace("move(0, 3) where there is none", () -> relief.move(0, 3));
-        relief.fine(0, 1);
-        checks.dueNoPlace("move(-1, 0)", () -> relief.move(-1, 0));
-        checks.dueNoPlace("move(min, 0)", () -> relief.move(Integer.MIN_VALUE, 0));
-        checks.dueNoPlace("move(4, 0)", () -> relief.move(4, 0));
-        checks.dueNoPlace("move(max, 0)", () -> relief.move(Integer.MAX_VALUE, 0));
-        checks.dueNoPlace("move(4, 3): the move first", () -> relief.move(4, 3));
-        checks.dueBadNumber("move(0, -1)", () -> relief.move(0, -1));
-        checks.dueBadNumber("move(3, 3)", () -> relief.move(3, 3));
-        relief.rough(0, 1, 0);
-        relief.fine(0, 1);
-        checks.dueNoPlace("a move of the pass before", () -> relief.move(4, 0));
     }
 
     private static void wayIsOfTheLatestPass() {

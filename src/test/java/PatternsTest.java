@@ -5,11 +5,9 @@ final class PatternsTest {
     public static void main(String[] args) {
         repeatTakesTheFirstPattern();
         repeatBeyondTheRelief();
-        repeatRefuses();
         mergeKeepsAndChangesNothing();
         mergeTakesTheGreaterOrLesser();
         mergeAdds();
-        mergeRefuses();
         checks.finish();
     }
 
@@ -37,17 +35,6 @@ final class PatternsTest {
         checks.due("repeat(20, 20)", relief.repeat(20, 20), 0);
         checks.due("repeat(20, 1)", relief.repeat(20, 1), 7);
         checks.due("wanted, only rows repeated", Reliefs.wanted(relief, 4, 3, 0), "1 2 3 1 / 1 2 3 1 / 1 2 3 1");
-    }
-
-    private static void repeatRefuses() {
-        ReliefPasses relief = sample();
-        checks.dueBadNumber("repeat(0, 1)", () -> relief.repeat(0, 1));
-        checks.dueBadNumber("repeat(1, 0)", () -> relief.repeat(1, 0));
-        checks.dueBadNumber("repeat(-1, 1)", () -> relief.repeat(-1, 1));
-        checks.dueBadNumber("repeat(1, -1)", () -> relief.repeat(1, -1));
-        checks.dueBadNumber("repeat(21, 1)", () -> relief.repeat(21, 1));
-        checks.dueBadNumber("repeat(1, 21)", () -> relief.repeat(1, 21));
-        checks.due("wanted after what was refused", Reliefs.wanted(relief, 4, 3, 0), "1 2 3 1 / 4 5 6 7 / 1 9 8 7");
     }
 
     private static void mergeKeepsAndChangesNothing() {
@@ -86,22 +73,5 @@ final class PatternsTest {
         checks.due("their sum", Reliefs.wanted(relief, 5, 1, 0), "0 10 1000 1000 5");
         relief.stock(1000);
         checks.due("made is not changed", relief.made(1, 0), 1000);
-    }
-
-    private static void mergeRefuses() {
-        ReliefPasses relief = Reliefs.of(Reliefs.row(3, 8));
-        checks.dueBadState("merge(1, 0) with none kept", () -> relief.merge(1, 0));
-        checks.dueBadState("merge(2, 0) with none kept", () -> relief.merge(2, 0));
-        checks.dueBadState("merge(3, 1000) with none kept", () -> relief.merge(3, 1000));
-        checks.dueBadNumber("merge(0, -1)", () -> relief.merge(0, -1));
-        checks.dueBadNumber("merge(0, 1001)", () -> relief.merge(0, 1001));
-        checks.dueBadState("what was refused kept nothing", () -> relief.merge(1, 0));
-        checks.dueBadNumber("merge(1, 1001): the number first", () -> relief.merge(1, 1001));
-        checks.dueBadNumber("merge(-1, 0)", () -> relief.merge(-1, 0));
-        checks.dueBadNumber("merge(4, 0)", () -> relief.merge(4, 0));
-        relief.merge(0, 0);
-        checks.dueBadNumber("merge(4, 0) with some kept", () -> relief.merge(4, 0));
-        checks.dueBadNumber("merge(3, -1) with some kept", () -> relief.merge(3, -1));
-        checks.due("wanted after what was refused", Reliefs.wanted(relief, 2, 1, 0), "3 8");
     }
 }

