@@ -17,7 +17,7 @@ final class Seen {
         return text.append(", levels of the stock ").append(relief.rough(0, 1, 0)).toString();
     }
 
-    /** Profiles do not tell kinds at radius 0, or a ball from a cone at 1: so tools are set to those of Samples, too. */
+    /** Profiles do not tell kinds at radius 0, nor a ball from a cone at 1: so tools are set to those of Samples. */
     private static String tools(ReliefPasses relief) {
         StringBuilder text = new StringBuilder();
         for (int tool = 0; tool < 4; tool++) {
