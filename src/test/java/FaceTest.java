@@ -4,14 +4,29 @@ import java.lang.reflect.Modifier;
 import java.util.Arrays;
 import java.util.TreeSet;
 
-/** The public face: what the document lists, and no other member that is not private. */
+/** "The public face": what the document lists, with its exceptions, and no other member that is not private. */
 final class FaceTest {
     private static final Checks checks = new Checks();
+    private static final String PLACE = "IndexOutOfBoundsException";
+    private static final String NUMBER = "IllegalArgumentException";
+    private static final String STATE = "IllegalStateException";
     private static final String[] METHODS = {
-        "boolean put(int, int, int)", "boolean tool(int, int, int)", "int stock(int)", "int lift(int, int, int)",
-        "int profile(int, int, int)", "int rough(int, int, int)", "int fine(int, int)", "int made(int, int)",
-        "boolean below()", "int rest(int, int)", "long sum()", "int moves()", "int move(int, int)", "long way()",
-        "int repeat(int, int)", "int merge(int, int)"
+        "boolean put(int, int, int) throws " + PLACE + ", " + NUMBER,
+        "boolean tool(int, int, int) throws " + PLACE + ", " + NUMBER,
+        "int stock(int) throws " + NUMBER + ", " + STATE,
+        "int lift(int, int, int) throws " + PLACE,
+        "int profile(int, int, int) throws " + PLACE,
+        "int rough(int, int, int) throws " + PLACE + ", " + NUMBER,
+        "int fine(int, int) throws " + PLACE + ", " + NUMBER,
+        "int made(int, int) throws " + PLACE,
+        "boolean below()",
+        "int rest(int, int) throws " + NUMBER,
+        "long sum()",
+        "int moves()",
+        "int move(int, int) throws " + PLACE + ", " + NUMBER,
+        "long way()",
+        "int repeat(int, int) throws " + NUMBER,
+        "int merge(int, int) throws " + NUMBER + ", " + STATE
     };
 
     public static void main(String[] args) {
@@ -22,6 +37,7 @@ final class FaceTest {
             "[public ReliefPasses(int,int)]");
         methodsAreThose(face);
         fieldsAreThose(face);
+        classesInsideAreHidden(face);
         checks.finish();
     }
 
@@ -49,9 +65,16 @@ final class FaceTest {
     }
 
     private static String text(Method method) {
-        String parameters = Arrays.toString(method.getParameterTypes());
-        return method.getReturnType() + " " + method.getName()
-            + "(" + parameters.substring(1, parameters.length() - 1) + ")";
+        String start = method.getReturnType() + " " + method.getName() + "(" + names(method.getParameterTypes()) + ")";
+        return method.getExceptionTypes().length == 0 ? start : start + " throws " + names(method.getExceptionTypes());
+    }
+
+    private static String names(Class<?>[] types) {
+        StringBuilder text = new StringBuilder();
+        for (Class<?> type : types) {
+            text.append(text.length() == 0 ? "" : ", ").append(type.getSimpleName());
+        }
+        return text.toString();
     }
 
     private static void fieldsAreThose(Class<?> face) {
@@ -64,5 +87,13 @@ final class FaceTest {
         checks.due("fields", open.toString(), "[public static final int ReliefPasses.BALL, "
             + "public static final int ReliefPasses.CONE, public static final int ReliefPasses.FLAT, "
             + "public static final int ReliefPasses.NONE]");
+    }
+
+    private static void classesInsideAreHidden(Class<?> face) {
+        for (Class<?> inside : face.getDeclaredClasses()) {
+            int modifiers = inside.getModifiers();
+            checks.due(inside + " is static, neither public nor protected", Modifier.isStatic(modifiers)
+                && !Modifier.isPublic(modifiers) && !Modifier.isProtected(modifiers), true);
+        }
     }
 }

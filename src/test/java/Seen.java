@@ -1,20 +1,28 @@
-/** All that can be told of a relief from outside, as one text; asked once, as some of it is only seen by changes. */
+import java.util.LinkedHashMap;
+import java.util.Map;
+
+/** All that can be told of a relief from outside; asked once, as some of it is only seen by changes. */
 final class Seen {
     private Seen() {
     }
 
     static String of(ReliefPasses relief, int width, int height) {
-        StringBuilder text = new StringBuilder();
-        text.append("moves ").append(Reliefs.moves(relief)).append(", way ").append(relief.way());
-        text.append(", made ").append(Reliefs.made(relief, width, height));
-        text.append(", below ").append(relief.below()).append(", sum ").append(relief.sum());
-        text.append(", tools").append(tools(relief));
-        text.append(", wanted ").append(Reliefs.wanted(relief, width, height, 0));
+        return parts(relief, width, height).toString();
+    }
+
+    /** By the document's names of what a relief has: MOVES, MADE, TOOLS, WANTED, KEPT, STOCK. */
+    static Map<String, String> parts(ReliefPasses relief, int width, int height) {
+        Map<String, String> parts = new LinkedHashMap<>();
+        parts.put("MOVES", relief.moves() + ": " + Reliefs.moves(relief) + ", way " + relief.way());
+        parts.put("MADE", Reliefs.made(relief, width, height));
+        parts.put("TOOLS", tools(relief));
+        parts.put("WANTED", Reliefs.wanted(relief, width, height, 0));
         clearWanted(relief, width, height);
-        text.append(", merging ").append(Checks.outcome(() -> relief.merge(1, 0)));
-        text.append(" with kept ").append(Reliefs.wanted(relief, width, height, 0));
+        String merging = Checks.outcome(() -> relief.merge(1, 0));
+        parts.put("KEPT", merging + " others: " + Reliefs.wanted(relief, width, height, 0));
         clearWanted(relief, width, height);
-        return text.append(", levels of the stock ").append(relief.rough(0, 1, 0)).toString();
+        parts.put("STOCK", "levels " + relief.rough(0, 1, 0));
+        return parts;
     }
 
     /** Profiles do not tell kinds at radius 0, nor a ball from a cone at 1: so tools are set to those of Samples. */
