@@ -1,6 +1,6 @@
 import java.util.Random;
 
-/** The terms LIFT and CARVED, and "tools .. that are lifted so that nothing wanted is cut, rough levels with a skin". */
+/** The terms LIFT and CARVED: tools "lifted so that nothing wanted is cut", rough levels "with a skin". */
 final class CarvingTest {
     private static final int SIDE = 11;
     private static final int MIDDLE = 5;
